@@ -1,0 +1,240 @@
+/** Promises 32 to 37: what would be (nothing is changed). */
+public final class WouldBeTest {
+    public static void main(String[] args) {
+        colourNow();
+        seenOf();
+        greatest();
+        glassAt();
+        glassOfBothPieces();
+        brightness();
+        digest();
+        nothingIsChanged();
+        wrongInputs();
+        Check.finish();
+    }
+
+    private static void colourNow() {
+        GlassRaster g = Scenes.flat();
+        g.setBackground(4);
+        Scenes.triangle(g, 6, 6, 0xFF);
+        Scenes.farTriangle(g, 6, 6, 0x00FF00);
+        g.addPane(3, 4, 5, -1, false, false);
+        g.addPane(0, 1, 2, -1, true, false);
+        for (int y = 0; y < 24; y++) {
+            for (int x = 0; x < 40; x++) {
+                Check.is("colourNow", g.colourNow(x, y),
+                        Scenes.inTriangle(6, 6, x, y) ? 0x007F7F : 4);
+            }
+        }
+        Check.is("the picture stays", g.colourAt(6, 6), 0);
+        g.show(0, false);
+        Check.is("without the far one", g.colourNow(6, 6), 0x81);
+    }
+
+    private static void seenOf() {
+        GlassRaster g = Scenes.flat();
+        Scenes.triangle(g, 6, 6, 0xFF);
+        Scenes.farTriangle(g, 6, 6, 0x00FF00);
+        g.addPane(3, 4, 5, -1, false, false);
+        Check.is("alone", g.seenOf(0), 10);
+        g.addPane(0, 1, 2, -1, false, false);
+        Check.is("behind another", g.seenOf(0), 0);
+        Check.is("in front", g.seenOf(1), 10);
+        g.addPane(0, 1, 2, -1, false, false);
+        Check.is("one of two of the same", g.seenOf(1), 0);
+        Check.is("the other of two", g.seenOf(2), 0);
+        g.show(2, false);
+        Check.is("one that is not shown", g.seenOf(2), 0);
+        Check.is("without that", g.seenOf(1), 10);
+        g.show(1, false);
+        g.addPane(0, 1, 2, -1, true, false);
+        Check.is("through a clear one", g.seenOf(0), 10);
+        Check.is("the clear one", g.seenOf(3), 10);
+        g.show(0, false);
+        g.setBackground(0xFF);
+        Check.is("of the background's colour", g.seenOf(3), 0);
+        Check.is("nothing is drawn", g.pointsWith(0), 0);
+    }
+
+    private static void greatest() {
+        GlassRaster g = Scenes.flat();
+        Check.is("without panes", g.greatest(), -1);
+        Scenes.triangle(g, 2, 2, 0xFF);
+        Scenes.triangle(g, 20, 2, 0xFF);
+        Scenes.corner(g, 20, 12, 0xFF);
+        g.addPane(0, 1, 2, -1, true, false);
+        Check.is("clear ones have no points", g.greatest(), -1);
+        g.addPane(0, 1, 2, -1, false, false);
+        g.addPane(3, 4, 5, -1, false, false);
+        Check.is("of several the smallest", g.greatest(), 1);
+        g.addPane(3, 4, 6, -1, false, false);
+        Check.is("what is behind another counts less", g.greatest(), 3);
+        g.show(3, false);
+        g.show(1, false);
+        Check.is("of those that are shown", g.greatest(), 2);
+        g.show(2, false);
+        Check.is("none is shown", g.greatest(), -1);
+        for (int i = 4; i < 30; i++) {
+            g.addPane(3, 4, 6, -1, false, false);
+            g.show(i, false);
+        }
+        g.show(29, true);
+        Check.is("the last one", g.greatest(), 29);
+        Check.is("the picture stays", g.paneAt(20, 2), -1);
+    }
+
+    private static void glassAt() {
+        GlassRaster g = Scenes.flat();
+        Scenes.triangle(g, 6, 6, 0xFF);
+        Scenes.farTriangle(g, 6, 6, 0x00FF00);
+        Check.is("without panes", g.glassAt(6, 6), 0);
+        g.addPane(0, 1, 2, -1, true, false);
+        g.addPane(3, 4, 5, -1, true, false);
+        Check.is("two", g.glassAt(6, 6), 2);
+        Check.is("beside them", g.glassAt(5, 6), 0);
+        g.addPane(3, 4, 5, -1, false, false);
+        Check.is("painted over behind that", g.glassAt(6, 6), 2);
+        g.addPane(3, 4, 5, -1, true, false);
+        Check.is("one that is not in front does not paint", g.glassAt(6, 6), 2);
+        g.addPane(0, 1, 2, -1, true, false);
+        Check.is("one that is", g.glassAt(6, 6), 3);
+        g.show(0, false);
+        Check.is("one is not shown", g.glassAt(6, 6), 2);
+        Check.is("nothing is drawn", g.colourAt(6, 6), 0);
+    }
+
+    /**
+     * Numbers cut downwards just in front of the camera fold this pane, so that its pieces have
+     * twelve points in common; the corners were searched for with {@link PlainRaster}.
+     */
+    private static void glassOfBothPieces() {
+        int[][] places = {{2, 6, 3}, {1, -6, -2}, {1, -5, 6}};
+        GlassRaster g = new GlassRaster();
+        PlainRaster plain = new PlainRaster();
+        g.setCamera(2, 0, 0, 1024, 0);
+        plain.setCamera(2, 0, 0, 1024, 0);
+        g.setLens(2, 3);
+        plain.setLens(2, 3);
+        for (int[] at : places) {
+            int colour = 0xFF << 8 * g.corners();
+            g.addCorner(at[0], at[1], at[2], colour, 0, 0);
+            plain.addCorner(at[0], at[1], at[2], colour, 0, 0);
+        }
+        g.addPane(0, 1, 2, -1, true, true);
+        plain.addPane(0, 1, 2, -1, true, true);
+        PlainRaster.Piece first = plain.pieces(0).get(0);
+        PlainRaster.Piece second = plain.pieces(0).get(1);
+        int both = 0;
+        for (int i = 0; i < 960; i++) {
+            int x = i % 40;
+            int y = i / 40;
+            long[] weights = PlainRaster.weights(first, x, y);
+            if (weights != null && PlainRaster.weights(second, x, y) != null) {
+                both++;
+                Check.is("glass of both pieces", g.glassAt(x, y), 1);
+                Check.is("the depth of the first piece", g.depthOf(0, x, y),
+                        PlainRaster.depth(first, weights));
+                Check.is("colourNow of both pieces", g.colourNow(x, y), plain.colourNow(x, y));
+            }
+        }
+        Check.is("points in both pieces", both, 12);
+        Check.is("two pieces", g.piecesOf(0), 2);
+        Check.is("a point in both is counted once", g.pointsOf(0), 15);
+    }
+
+    private static void brightness() {
+        GlassRaster g = Scenes.flat();
+        Check.isDouble("black", g.brightness(), 0.0);
+        g.setBackground(0x010203);
+        Check.isDouble("of the picture", g.brightness(), 0.0);
+        g.clear();
+        Check.isDouble("of the background", g.brightness(), 6.0);
+        g.setBackground(0xFFFFFF);
+        g.clear();
+        Check.isDouble("white", g.brightness(), 765.0);
+        Scenes.triangle(g, 6, 6, 0x00FE00);
+        Scenes.pane(g, 0, false);
+        g.paint();
+        Check.isDouble("not cut", g.brightness(), (765.0 * 950 + 254.0 * 10) / 960);
+    }
+
+    private static void digest() {
+        GlassRaster g = new GlassRaster();
+        Check.is("digest of a new object", g.digest(), digestOf(g));
+        Check.is("digest again", g.digest(), digestOf(g));
+        g.addCorner(-150, -100, -450, 16711680, 0, 0);
+        g.addCorner(150, -100, 0, 65280, 2047, 0);
+        g.addCorner(0, 120, 100, 255, 1024, 2047);
+        g.addCorner(0, -200, 100, 16777215, 0, 1024);
+        Check.is("digest with corners", g.digest(), digestOf(g));
+        g.addPane(0, 1, 2, -1, false, true);
+        g.addPane(3, 2, 0, 0, false, true);
+        g.addPane(1, 2, 3, -1, true, true);
+        Check.holds("something is stale", g.stale() > 0);
+        Check.is("digest with panes", g.digest(), digestOf(g));
+        g.paint();
+        Check.is("digest with a picture", g.digest(), digestOf(g));
+        g.show(1, false);
+        Check.is("digest with one not shown", g.digest(), digestOf(g));
+    }
+
+    /** The checksum from the answers of the other calls. */
+    private static long digestOf(GlassRaster g) {
+        java.util.List<Integer> values = new java.util.ArrayList<>();
+        values.addAll(java.util.List.of(g.corners(), g.panes(), g.stale()));
+        for (int i = 0; i < g.corners(); i++) {
+            values.addAll(java.util.List.of(g.seen(i, 0), g.seen(i, 1), g.seen(i, 2)));
+        }
+        for (int i = 0; i < g.panes(); i++) {
+            values.addAll(java.util.List.of(g.polygonOf(i), g.piecesOf(i), g.pointsOf(i),
+                    g.pointsWith(i)));
+            for (int k = 0; k < g.polygonOf(i); k++) {
+                values.addAll(java.util.List.of(g.screenOf(i, k, 0), g.screenOf(i, k, 1),
+                        g.screenOf(i, k, 2), g.screenOf(i, k, 3)));
+            }
+        }
+        values.add(g.colours());
+        for (int i = 0; i < 960; i++) {
+            int x = i % 40;
+            int y = i / 40;
+            values.addAll(java.util.List.of(g.colourAt(x, y), g.depthAt(x, y), g.paneAt(x, y)));
+        }
+        long d = 2459;
+        for (int value : values) {
+            d = d * 31 + value;
+        }
+        return d;
+    }
+
+    private static void nothingIsChanged() {
+        GlassRaster g = Scenes.flat();
+        Scenes.triangle(g, 6, 6, 0xFF);
+        Scenes.pane(g, 0, true);
+        Scenes.pane(g, 0, false);
+        long before = g.digest();
+        g.colourNow(6, 6);
+        g.seenOf(1);
+        g.greatest();
+        g.glassAt(6, 6);
+        g.brightness();
+        g.digest();
+        g.stale();
+        g.isStale(0);
+        Check.is("the digest stays", g.digest(), before);
+        Check.is("the picture stays", g.paneAt(6, 6), -1);
+    }
+
+    private static void wrongInputs() {
+        GlassRaster g = Scenes.flat();
+        Scenes.triangle(g, 0, 0, 5);
+        Scenes.pane(g, 0, true);
+        int[][] wrong = {{-1, 0}, {40, 0}, {0, -1}, {0, 24}, {Integer.MIN_VALUE, 0},
+            {Integer.MAX_VALUE, 0}, {0, Integer.MIN_VALUE}, {0, Integer.MAX_VALUE}, {-40, 1}};
+        for (int[] w : wrong) {
+            Check.refusesIndex(g, "colourNow", () -> g.colourNow(w[0], w[1]));
+            Check.refusesIndex(g, "glassAt", () -> g.glassAt(w[0], w[1]));
+        }
+        Check.refusesIndex(g, "seenOf(-1)", () -> g.seenOf(-1));
+        Check.refusesIndex(g, "seenOf(1)", () -> g.seenOf(1));
+    }
+}
