@@ -904,10 +904,20 @@ public final class GlassRaster {
             a = first;
             b = turned < 0 ? third : second;
             c = turned < 0 ? second : third;
-            box.spanMiddles(Math.min(a.screenX, Math.min(b.screenX, c.screenX)),
-                    Math.min(a.screenY, Math.min(b.screenY, c.screenY)),
-                    Math.max(a.screenX, Math.max(b.screenX, c.screenX)),
-                    Math.max(a.screenY, Math.max(b.screenY, c.screenY)));
+            box.span(firstMiddle(Math.min(a.screenX, Math.min(b.screenX, c.screenX))),
+                    firstMiddle(Math.min(a.screenY, Math.min(b.screenY, c.screenY))),
+                    lastMiddle(Math.max(a.screenX, Math.max(b.screenX, c.screenX))),
+                    lastMiddle(Math.max(a.screenY, Math.max(b.screenY, c.screenY))));
+        }
+
+        /** The first point whose middle is not before this place. */
+        private static int firstMiddle(int least) {
+            return Math.floorDiv(least + STEPS / 2 - 1, STEPS);
+        }
+
+        /** The last point whose middle is not behind this place. */
+        private static int lastMiddle(int most) {
+            return Math.floorDiv(most - STEPS / 2, STEPS);
         }
 
         /** Keeps the weights of the point, for the means that are asked for next. */
@@ -915,9 +925,15 @@ public final class GlassRaster {
             int middleX = STEPS * x + STEPS / 2;
             int middleY = STEPS * y + STEPS / 2;
             wa = turn(b, c, middleX, middleY);
+            if (!isInside(wa, b, c)) {
+                return false;
+            }
             wb = turn(c, a, middleX, middleY);
+            if (!isInside(wb, c, a)) {
+                return false;
+            }
             wc = turn(a, b, middleX, middleY);
-            return isInside(wa, b, c) && isInside(wb, c, a) && isInside(wc, a, b);
+            return isInside(wc, a, b);
         }
 
         private static long turn(Spot p, Spot q, int x, int y) {
@@ -948,7 +964,7 @@ public final class GlassRaster {
         }
     }
 
-    /** Points of the screen from left to right and top to bottom, all of these within. */
+    /** Points of the screen, the last ones within. It never leaves the screen. */
     private static final class Box {
         int left;
         int top;
@@ -956,26 +972,10 @@ public final class GlassRaster {
         int bottom;
 
         void span(int newLeft, int newTop, int newRight, int newBottom) {
-            left = newLeft;
-            top = newTop;
-            right = newRight;
-            bottom = newBottom;
-        }
-
-        /** Spans the points of the screen whose middles lie between these sixteenths. */
-        void spanMiddles(int leastX, int leastY, int mostX, int mostY) {
-            left = Math.max(0, firstMiddle(leastX));
-            top = Math.max(0, firstMiddle(leastY));
-            right = Math.min(WIDTH - 1, lastMiddle(mostX));
-            bottom = Math.min(HEIGHT - 1, lastMiddle(mostY));
-        }
-
-        private static int firstMiddle(int least) {
-            return least + STEPS / 2 - 1 >> 4;
-        }
-
-        private static int lastMiddle(int most) {
-            return most - STEPS / 2 >> 4;
+            left = Math.max(0, newLeft);
+            top = Math.max(0, newTop);
+            right = Math.min(WIDTH - 1, newRight);
+            bottom = Math.min(HEIGHT - 1, newBottom);
         }
 
         boolean spans(int x, int y) {
