@@ -4,6 +4,7 @@ public final class PictureTest {
         clear();
         paint();
         staleTiles();
+        everyPointOfATile();
         staleByDepthOrPane();
         points();
         nearerIsSeen();
@@ -70,6 +71,24 @@ public final class PictureTest {
             Check.is("stale stays", g.stale(), 1);
             Check.is("it is drawn", g.paint(), 1);
             Check.is("it is not stale then", g.isStale(tile), false);
+        }
+    }
+
+    private static void everyPointOfATile() {
+        int[] x = {8, 15, 8, 15, 11, 0, 39};
+        int[] y = {8, 8, 15, 15, 12, 0, 23};
+        int[] tile = {6, 6, 6, 6, 6, 0, 14};
+        for (int i = 0; i < x.length; i++) {
+            GlassRaster g = Scenes.flat();
+            Scenes.dot(g, x[i], y[i], 1);
+            Scenes.pane(g, 0, false);
+            for (int k = 0; k < 15; k++) {
+                Check.is("one point makes it stale", g.isStale(k), k == tile[i]);
+            }
+            Check.is("stale by one point", g.stale(), 1);
+            Check.is("paint one point", g.paint(), 1);
+            Check.is("it is painted", g.pointsWith(0), 1);
+            Check.is("there", g.paneAt(x[i], y[i]), 0);
         }
     }
 
@@ -204,6 +223,17 @@ public final class PictureTest {
         g.setColour(0, 0xFFFFFE);
         g.paint();
         Check.is("every colour of the triangle", g.colours(), different(g));
+        g.show(0, false);
+        for (int background = 0; background < 3; background++) {
+            g.setBackground(background);
+            g.clear();
+            Check.is("the background alone", g.colours(), 1);
+        }
+        g.setBackground(16777215);
+        g.paint();
+        Check.is("white alone", g.colours(), 1);
+        g.show(0, true);
+        g.paint();
         Check.is("colours again", g.colours(), different(g));
     }
 

@@ -39,6 +39,16 @@ final class Scenes {
         return first;
     }
 
+    /** Three corners about the middle of one point; a pane of these has just this point. */
+    static int dot(GlassRaster raster, int px, int py, int colour) {
+        int x = 16 * px + 8 - 320;
+        int y = 16 * py + 8 - 192;
+        int first = raster.addCorner(x - 4, y - 4, 0, colour, 0, 0);
+        raster.addCorner(x + 8, y - 4, 0, colour, 0, 0);
+        raster.addCorner(x - 4, y + 8, 0, colour, 0, 0);
+        return first;
+    }
+
     static int farTriangle(GlassRaster raster, int px, int py, int colour) {
         int first = farCorner(raster, px, py, colour);
         farCorner(raster, px + 4, py, colour);

@@ -13,6 +13,7 @@ public final class StepsTest {
         pointsOfAndLiesIn();
         pointsOnEdges();
         pointsFromBehind();
+        smallestArea();
         depthOf();
         colourOf();
         colourOfPattern();
@@ -301,6 +302,27 @@ public final class StepsTest {
         }
     }
 
+    /** Half a sixteenth by a sixteenth, its first corner in the middle of a point. */
+    private static void smallestArea() {
+        GlassRaster g = Scenes.flat();
+        Scenes.corner(g, 12, 7, 5);
+        g.addCorner(16 * 12 + 8 - 320 + 1, 16 * 7 + 8 - 192, 0, 5, 0, 0);
+        g.addCorner(16 * 12 + 8 - 320, 16 * 7 + 8 - 192 + 1, 0, 5, 0, 0);
+        g.addPane(0, 1, 2, -1, false, false);
+        g.addPane(0, 2, 1, -1, false, false);
+        g.addPane(0, 2, 1, 0, false, true);
+        g.setPattern(0, 0, 0, 0xFFFFFF);
+        int[] pieces = {1, 0, 1};
+        for (int pane = 0; pane < 3; pane++) {
+            boolean isDrawn = pieces[pane] == 1;
+            Check.is("smallest, pieces", g.piecesOf(pane), pieces[pane]);
+            Check.is("smallest, points", g.pointsOf(pane), pieces[pane]);
+            Check.is("smallest, point", g.liesIn(pane, 12, 7), isDrawn);
+            Check.is("smallest, depth", g.depthOf(pane, 12, 7), isDrawn ? 55296 : -1);
+            Check.is("smallest, colour", g.colourOf(pane, 12, 7), isDrawn ? 5 : -1);
+        }
+    }
+
     private static void depthOf() {
         GlassRaster g = Scenes.flat();
         Scenes.corner(g, 10, 5, 0);
@@ -361,6 +383,11 @@ public final class StepsTest {
         }
         g.setPattern(1, 2, 7, 0xFFFFFF);
         Check.is("white leaves it", g.colourOf(1, 11, 6), 0x64FF01);
+        for (int i = 0; i < 3; i++) {
+            g.setColour(i, 0xFFFFFF);
+        }
+        Check.is("white times white", g.colourOf(1, 11, 6), 0xFFFFFF);
+        Check.is("white takes the pattern's", g.colourOf(0, 11, 6), 200 * 65536 + 0x8101);
     }
 
     /** u is weighted: half way to a corner twice as far, only a third of its u is reached. */

@@ -53,6 +53,12 @@ public final class WouldBeTest {
         g.show(0, false);
         g.setBackground(0xFF);
         Check.is("of the background's colour", g.seenOf(3), 0);
+        Scenes.dot(g, 0, 0, 1);
+        Scenes.dot(g, 39, 23, 1);
+        Scenes.pane(g, 6, false);
+        Scenes.pane(g, 9, true);
+        Check.is("the first point alone", g.seenOf(4), 1);
+        Check.is("the last point alone", g.seenOf(5), 1);
         Check.is("nothing is drawn", g.pointsWith(0), 0);
     }
 
@@ -74,13 +80,22 @@ public final class WouldBeTest {
         Check.is("of those that are shown", g.greatest(), 2);
         g.show(2, false);
         Check.is("none is shown", g.greatest(), -1);
-        for (int i = 4; i < 30; i++) {
+        Scenes.dot(g, 30, 20, 0xFF);
+        g.addPane(7, 8, 9, -1, false, false);
+        Check.is("one point is enough", g.greatest(), 4);
+        Check.is("once more", g.greatest(), 4);
+        g.show(4, false);
+        for (int i = 5; i < 30; i++) {
             g.addPane(3, 4, 6, -1, false, false);
             g.show(i, false);
         }
         g.show(29, true);
         Check.is("the last one", g.greatest(), 29);
         Check.is("the picture stays", g.paneAt(20, 2), -1);
+        GlassRaster one = Scenes.flat();
+        Scenes.triangle(one, 2, 2, 0xFF);
+        Scenes.pane(one, 0, false);
+        Check.is("the first one", one.greatest(), 0);
     }
 
     private static void glassAt() {
@@ -91,7 +106,10 @@ public final class WouldBeTest {
         g.addPane(0, 1, 2, -1, true, false);
         g.addPane(3, 4, 5, -1, true, false);
         Check.is("two", g.glassAt(6, 6), 2);
-        Check.is("beside them", g.glassAt(5, 6), 0);
+        int[][] beside = {{5, 6}, {10, 6}, {6, 5}, {6, 10}, {9, 9}, {12, 6}, {6, 12}};
+        for (int[] at : beside) {
+            Check.is("beside them", g.glassAt(at[0], at[1]), 0);
+        }
         g.addPane(3, 4, 5, -1, false, false);
         Check.is("painted over behind that", g.glassAt(6, 6), 2);
         g.addPane(3, 4, 5, -1, true, false);
