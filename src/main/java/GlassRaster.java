@@ -59,8 +59,6 @@ public final class GlassRaster {
         for (int i = 0; i < patternRow.length; i++) {
             patternRow[i] = new Pattern();
         }
-        wholeScreen.span(0, 0, WIDTH - 1, HEIGHT - 1);
-        picture.blank(wholeScreen, 0);
     }
 
     // ---- what there is
@@ -831,7 +829,7 @@ public final class GlassRaster {
     private static final class Shape {
         final Spot[] ends = {new Spot(), new Spot(), new Spot()};
         final Spot[] spots = {new Spot(), new Spot(), new Spot(), new Spot()};
-        final Piece[] pieces = {new Piece(spots[0]), new Piece(spots[0])};
+        final Piece[] pieces = {new Piece(), new Piece()};
         int count;
 
         void cutAt(int near) {
@@ -875,21 +873,15 @@ public final class GlassRaster {
 
     private static final class Piece {
         final Box box = new Box();
-        Spot a;
-        Spot b;
-        Spot c;
+        Spot a = new Spot();
+        Spot b = new Spot();
+        Spot c = new Spot();
         long area;
         boolean isDrawn;
         /** The weights of the three corners at the point that was asked for last. */
         long wa;
         long wb;
         long wc;
-
-        Piece(Spot start) {
-            a = start;
-            b = start;
-            c = start;
-        }
 
         void take(Spot first, Spot second, Spot third, boolean isTwoSided) {
             if (first.isFarOut() || second.isFarOut() || third.isFarOut()) {
@@ -964,12 +956,12 @@ public final class GlassRaster {
         }
     }
 
-    /** Points of the screen, the last ones within. It never leaves the screen. */
+    /** Points of the screen, at first all, the last ones within. It never leaves the screen. */
     private static final class Box {
         int left;
         int top;
-        int right;
-        int bottom;
+        int right = WIDTH - 1;
+        int bottom = HEIGHT - 1;
 
         void span(int newLeft, int newTop, int newRight, int newBottom) {
             left = Math.max(0, newLeft);
@@ -987,6 +979,13 @@ public final class GlassRaster {
         final int[] colours = new int[POINTS];
         final int[] depths = new int[POINTS];
         final int[] panes = new int[POINTS];
+
+        Screen() {
+            for (int i = 0; i < POINTS; i++) {
+                depths[i] = FARTHEST;
+                panes[i] = NONE;
+            }
+        }
 
         void blank(Box box, int colour) {
             for (int y = box.top; y <= box.bottom; y++) {
