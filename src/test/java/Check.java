@@ -2,8 +2,18 @@
 final class Check {
     private static int wrong = 0;
     private static int looked = 0;
+    private static String about = "";
 
     private Check() {
+    }
+
+    /** What is looked at from now on; reports begin with it. */
+    static void about(String text) {
+        about = text.isEmpty() ? "" : text + ": ";
+    }
+
+    static int looked() {
+        return looked;
     }
 
     static void is(String what, long got, long due) {
@@ -65,7 +75,7 @@ final class Check {
     static void report(String text) {
         wrong++;
         if (wrong <= 20) {
-            System.out.println(text);
+            System.out.println(about + text);
         }
     }
 
