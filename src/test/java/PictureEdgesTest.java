@@ -33,6 +33,7 @@ public final class PictureEdgesTest {
         staleByOneNumber(edges);
         isStale(edges);
         pointsOfThePicture(edges);
+        cornersOfTheScreen(edges);
         pointsWith(edges);
         colours(edges);
         refused(edges);
@@ -381,6 +382,18 @@ public final class PictureEdgesTest {
                 Check.is("with another background", g.isStale(tile), true);
             }
         });
+        edges.of(26, "Returns whether it is stale.", "the picture, not a screen ahead of drawing",
+                () -> {
+            GlassRaster g = whole(9, false);
+            g.seenOf(0);
+            g.paint();
+            g.clear();
+            Check.is("cleared", g.isStale(7), true);
+            g.paint();
+            Check.is("painted", g.isStale(7), false);
+            g.show(0, false);
+            Check.is("not shown", g.isStale(7), true);
+        });
         edges.of(26, "Throws `IndexOutOfBoundsException` if tile is not 0 to 14", "",
                 () -> Refused.outside(Stage.SOME, Refused.INDEX, 0, 14, (g, n) -> g.isStale(n)));
     }
@@ -391,6 +404,7 @@ public final class PictureEdgesTest {
             Check.is("at first", g.colourAt(39, 23), 0);
             g.paint();
             g.show(0, false);
+            Check.is("it would be another", g.stale(), 15);
             Check.is("colourAt", g.colourAt(39, 23), 9);
             g.paint();
             Check.is("painted again", g.colourAt(39, 23), 0);
@@ -414,6 +428,7 @@ public final class PictureEdgesTest {
             g.paint();
             Check.is("the least", g.depthAt(0, 0), 0);
             g.setLens(100, 40);
+            Check.is("it would be another", g.stale(), 15);
             Check.is("it stays", g.depthAt(0, 0), 0);
         });
         edges.of(29, "Returns its pane in the picture; -1 without one.", "-1, 0 and 29", () -> {
@@ -425,6 +440,7 @@ public final class PictureEdgesTest {
             for (int pane = 0; pane < 29; pane++) {
                 g.show(pane, false);
             }
+            Check.is("it would be another", g.stale(), 15);
             Check.is("it stays", g.paneAt(0, 0), 0);
             g.paint();
             Check.is("the last one", g.paneAt(39, 23), 29);
@@ -433,9 +449,55 @@ public final class PictureEdgesTest {
         });
     }
 
+    /** Four panes of one point each, one in each corner of the screen; only these are nearer. */
+    private static GlassRaster fourDots() {
+        GlassRaster g = Scenes.flat();
+        for (int i = 0; i < 4; i++) {
+            int first = Scenes.dot(g, i % 2 * 39, i / 2 * 23, 10 + i);
+            Scenes.pane(g, first, false);
+        }
+        g.setBackground(5);
+        g.paint();
+        return g;
+    }
+
+    private static void dot(int got, int x, int y, int dueThere, int dueBeside) {
+        boolean isThere = (x == 0 || x == 39) && (y == 0 || y == 23);
+        Check.is("at " + x + ", " + y, got, isThere ? dueThere : dueBeside);
+    }
+
+    private static void cornersOfTheScreen(Edges edges) {
+        int[] x = {0, 1, 38, 39};
+        int[] y = {0, 1, 22, 23};
+        edges.of(27, "Returns its colour in the picture.",
+                "in the corners of the screen", () -> {
+            GlassRaster g = fourDots();
+            for (int i = 0; i < 16; i++) {
+                int pane = (i % 4 == 3 ? 1 : 0) + (i / 4 == 3 ? 2 : 0);
+                dot(g.colourAt(x[i % 4], y[i / 4]), x[i % 4], y[i / 4], 10 + pane, 5);
+            }
+        });
+        edges.of(28, "Returns its depth in the picture.",
+                "in the corners of the screen", () -> {
+            GlassRaster g = fourDots();
+            for (int i = 0; i < 16; i++) {
+                dot(g.depthAt(x[i % 4], y[i / 4]), x[i % 4], y[i / 4], 55296, 65535);
+            }
+        });
+        edges.of(29, "Returns its pane in the picture; -1 without one.",
+                "in the corners of the screen", () -> {
+            GlassRaster g = fourDots();
+            for (int i = 0; i < 16; i++) {
+                int pane = (i % 4 == 3 ? 1 : 0) + (i / 4 == 3 ? 2 : 0);
+                dot(g.paneAt(x[i % 4], y[i / 4]), x[i % 4], y[i / 4], pane, -1);
+            }
+        });
+    }
+
     private static void pointsWith(Edges edges) {
         edges.of(30, "Returns how many points of the picture have it.", "none, one and 960", () -> {
             GlassRaster g = whole(9, false);
+            Check.is("it would have all", g.stale(), 15);
             Check.is("not painted", g.pointsWith(0), 0);
             g.paint();
             Check.is("all", g.pointsWith(0), 960);
@@ -473,10 +535,21 @@ public final class PictureEdgesTest {
             g.clear();
             Check.is("white alone", g.colours(), 1);
             Scenes.pane(g, Scenes.dot(g, 39, 23, 0), false);
+            Check.is("one tile is stale", g.stale(), 1);
             Check.is("not painted yet", g.colours(), 1);
             g.paint();
             Check.is("two", g.colours(), 2);
             Check.is("all", allDifferent().colours(), 960);
+        });
+        edges.of(31, "Returns how many different colours the picture has.",
+                "one, whichever it is", () -> {
+            int[] colours = {0, 1, 2, 0xFF, 0x100, 0x10000, 0xFFFFFE, 0xFFFFFF};
+            for (int colour : colours) {
+                GlassRaster g = new GlassRaster();
+                g.setBackground(colour);
+                g.clear();
+                Check.is("of " + colour, g.colours(), 1);
+            }
         });
     }
 

@@ -42,12 +42,14 @@ public final class PointsEdgesTest {
         liesIn(edges);
         edgesThatCount(edges);
         besideAnEdge(edges);
+        leastAreas(edges);
         fromBehind(edges);
         depthOf(edges);
         firstPiece(edges);
         colourOf(edges);
         patternPlaces(edges);
         patternMeans(edges);
+        patternOfGreatestArea(edges);
         patternColours(edges);
         refused(edges);
         return edges;
@@ -92,10 +94,28 @@ public final class PointsEdgesTest {
                 Check.is("at " + places[i][0] + ", " + places[i][1], g.pointsOf(0), due[i]);
             }
         });
+        edges.of(19, POINTS_ANSWER, "all over the screen, by any first corner", () -> {
+            int[][] places = {{0, 0}, {35, 0}, {0, 19}, {35, 19}, {18, 10}, {2, 18}, {30, 2}};
+            for (int[] at : places) {
+                points(at[0], at[1], new int[] {0, 0, 4, 0, 0, 4}, 10);
+                points(at[0], at[1], new int[] {4, 0, 4, 4, 0, 4}, 6);
+            }
+        });
         edges.of(19, NOT_WRAPPED, "the greatest area", () -> {
             GlassRaster g = Scenes.huge(0, 0, 0);
             Check.is("pointsOf", g.pointsOf(Scenes.pane(g, 0, false)), 960);
         });
+    }
+
+    /** Three corners in the middles of points, so many points from (px, py). */
+    private static void points(int px, int py, int[] by, int due) {
+        for (int first = 0; first < 3; first++) {
+            GlassRaster g = Scenes.flat();
+            for (int k = first; k < first + 3; k++) {
+                Scenes.corner(g, px + by[k % 3 * 2], py + by[k % 3 * 2 + 1], 0);
+            }
+            Check.is("pointsOf", g.pointsOf(Scenes.pane(g, 0, false)), due);
+        }
     }
 
     private static void bothPiecesCountOnce(Edges edges) {
@@ -151,7 +171,7 @@ public final class PointsEdgesTest {
         });
     }
 
-    /** Three corners in the middles of points, in each of the orders that are seen from the front. */
+    /** Three corners in the middles of points, in each order that is seen from the front. */
     private static void triangle(int[] corners, int x, int y, boolean due) {
         for (int turned = 0; turned < 3; turned++) {
             GlassRaster g = Scenes.flat();
@@ -228,6 +248,44 @@ public final class PointsEdgesTest {
                 Check.is("lower edge", g.liesIn(1, 12, 9), by > 0);
                 Check.is("right edge", g.liesIn(1, 14, 7), by > 0);
             }
+        });
+    }
+
+    /** Three corners about or at the middle of (12, 7), so many sixteenths from it. */
+    private static GlassRaster about(int... by) {
+        GlassRaster g = Scenes.flat();
+        for (int i = 0; i < 3; i++) {
+            g.addCorner(16 * 12 + 8 - 320 + by[2 * i], 16 * 7 + 8 - 192 + by[2 * i + 1], 0,
+                    0x123456, 0, 0);
+        }
+        g.addPane(0, 1, 2, -1, false, false);
+        g.addPane(0, 2, 1, -1, false, false);
+        g.addPane(0, 2, 1, -1, false, true);
+        return g;
+    }
+
+    private static void hasOnePoint(GlassRaster g) {
+        for (int pane = 0; pane < 3; pane++) {
+            boolean isDrawn = pane != 1;
+            Check.is("liesIn(" + pane + ", 12, 7)", g.liesIn(pane, 12, 7), isDrawn);
+            Check.is("pointsOf(" + pane + ")", g.pointsOf(pane), isDrawn ? 1 : 0);
+            Check.is("depthOf(" + pane + ", 12, 7)", g.depthOf(pane, 12, 7),
+                    isDrawn ? 55296 : -1);
+            Check.is("colourOf(" + pane + ", 12, 7)", g.colourOf(pane, 12, 7),
+                    isDrawn ? 0x123456 : -1);
+        }
+    }
+
+    private static void leastAreas(Edges edges) {
+        edges.of(20, LIES, "the least area, 1, and two weights of 0", () ->
+                hasOnePoint(about(0, 0, 1, 0, 0, 1)));
+        edges.of(20, LIES, "the area 3, and three weights of 1", () ->
+                hasOnePoint(about(-1, -1, 1, 0, 0, 1)));
+        edges.of(20, LIES, "the area 1, and a weight of -1", () -> {
+            GlassRaster g = about(-1, -1, 1, 0, 0, -1);
+            Check.is("it has an area", g.piecesOf(2), 1);
+            Check.is("liesIn", g.liesIn(2, 12, 7), false);
+            Check.is("pointsOf", g.pointsOf(2), 0);
         });
     }
 
@@ -365,6 +423,14 @@ public final class PointsEdgesTest {
             Check.is("127.5, 127.5, 0.5", g.colourOf(0, 12, 5), 127 * 65536 + 127 * 256);
             Check.is("at the first corner", g.colourOf(0, 10, 5), 0x00FF01);
         });
+        edges.of(22, MEANS, "what is farther weighs as much", () -> {
+            GlassRaster g = Scenes.flat();
+            Scenes.corner(g, 10, 5, 0);
+            Scenes.farCorner(g, 14, 5, 0xFFFFFF);
+            Scenes.corner(g, 10, 9, 0);
+            g.addPane(0, 1, 2, -1, false, false);
+            Check.is("half of the way", g.colourOf(0, 12, 5), 0x7F7F7F);
+        });
         edges.of(22, NOT_WRAPPED, "the greatest area", () -> {
             GlassRaster g = Scenes.huge(0xFFFFFF, 2047, 600);
             g.setPattern(0, 7, 4, 0xABCDEF);
@@ -377,7 +443,7 @@ public final class PointsEdgesTest {
         });
     }
 
-    /** A white pane with the same u and v everywhere; each colour of its pattern tells its place. */
+    /** A white pane with the same u and v everywhere; the colours of its pattern tell the place. */
     private static GlassRaster patterned(int u, int v) {
         GlassRaster g = Scenes.flat();
         for (int i = 0; i < 3; i++) {
@@ -447,6 +513,32 @@ public final class PointsEdgesTest {
             g.addCorner(128, 0, 640, Scenes.WHITE, 2047, 2047);
             g.addPane(0, 3, 2, 3, false, false);
             Check.is("475 rather than 767", g.colourOf(1, 21, 12), 303);
+        });
+        edges.of(22, PATTERN_MEANS, "three corners with the weights 103, 52 and 26", () -> {
+            GlassRaster g = patterned(0, 0);
+            int x = 16 * 10 + 8 - 320;
+            int y = 16 * 5 + 8 - 192;
+            int first = g.addCorner(x, y, 0, Scenes.WHITE, 2047, 0);
+            g.addCorner(2 * (x + 64), 2 * y, 640, Scenes.WHITE, 0, 1000);
+            g.addCorner(4 * x, 4 * (y + 64), 1920, Scenes.WHITE, 1000, 2047);
+            g.addPane(first, first + 1, first + 2, 3, false, false);
+            Check.is("the weight of the third", g.screenOf(1, 2, 3), 26);
+            Check.is("u 1576, v 370", g.colourOf(1, 11, 6), 204);
+        });
+    }
+
+    private static void patternOfGreatestArea(Edges edges) {
+        edges.of(22, NOT_WRAPPED, "the greatest area, patterned", () -> {
+            GlassRaster g = Scenes.huge(0, 0, 0);
+            g.addCorner(1855, 931, 0, Scenes.WHITE, 2047, 0);
+            g.addCorner(-1895, 931, 0, Scenes.WHITE, 0, 1000);
+            g.addCorner(1855, -944, 0, Scenes.WHITE, 1000, 2047);
+            g.addPane(3, 4, 5, 3, false, false);
+            for (int i = 0; i < 64; i++) {
+                g.setPattern(3, i % 8, i / 8, 100 * (i / 8) + i % 8);
+            }
+            Check.is("u 500, v 1523", g.colourOf(0, 0, 0), 303);
+            Check.is("u 528, v 1500", g.colourOf(0, 39, 23), 304);
         });
     }
 

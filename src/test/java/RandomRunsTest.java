@@ -44,7 +44,8 @@ public final class RandomRunsTest {
         for (int i = 0; i < 40; i++) {
             setPattern(false);
         }
-        while (call < CALLS - 1) {
+        // Some lots ask for two answers.
+        while (call < CALLS - 2) {
             anyCall(random.nextInt(12) == 0);
         }
         same("digest", got::digest, due::digest);

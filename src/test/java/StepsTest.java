@@ -251,8 +251,11 @@ public final class StepsTest {
         g.show(0, false);
         Check.is("pointsOf", g.pointsOf(0), 10);
         for (int y = 0; y < 24; y++) {
+            GlassRaster one = Scenes.flat();
+            Scenes.pane(one, Scenes.triangle(one, 5, 5, 0), false);
+            one.show(0, false);
             for (int x = 0; x < 40; x++) {
-                Check.is("liesIn(0, " + x + ", " + y + ")", g.liesIn(0, x, y),
+                Check.is("liesIn(0, " + x + ", " + y + ")", one.liesIn(0, x, y),
                         Scenes.inTriangle(5, 5, x, y));
             }
         }
@@ -268,14 +271,14 @@ public final class StepsTest {
 
     /** The two halves of a square share its slanted edge; each point is in one of them. */
     private static void pointsOnEdges() {
-        GlassRaster g = Scenes.flat();
-        Scenes.triangle(g, 30, 10, 0);
-        Scenes.corner(g, 34, 14, 0);
-        g.addPane(0, 1, 2, -1, false, false);
-        g.addPane(3, 2, 1, -1, false, false);
-        g.addPane(2, 1, 3, -1, false, true);
-        g.addPane(1, 3, 2, -1, false, false);
         for (int y = 0; y < 24; y++) {
+            GlassRaster g = Scenes.flat();
+            Scenes.triangle(g, 30, 10, 0);
+            Scenes.corner(g, 34, 14, 0);
+            g.addPane(0, 1, 2, -1, false, false);
+            g.addPane(3, 2, 1, -1, false, false);
+            g.addPane(2, 1, 3, -1, false, true);
+            g.addPane(1, 3, 2, -1, false, false);
             for (int x = 0; x < 40; x++) {
                 boolean isInSquare = x >= 30 && x < 34 && y >= 10 && y < 14;
                 boolean isInFirst = Scenes.inTriangle(30, 10, x, y);

@@ -25,10 +25,11 @@ public final class ThingsTest {
         Check.is("stale of a new object", g.stale(), 0);
         Check.is("colours of a new object", g.colours(), 1);
         for (int y = 0; y < 24; y++) {
+            GlassRaster one = new GlassRaster();
             for (int x = 0; x < 40; x++) {
-                Check.is("first colour", g.colourAt(x, y), 0);
-                Check.is("first depth", g.depthAt(x, y), 65535);
-                Check.is("first pane", g.paneAt(x, y), -1);
+                Check.is("first colour", one.colourAt(x, y), 0);
+                Check.is("first depth", one.depthAt(x, y), 65535);
+                Check.is("first pane", one.paneAt(x, y), -1);
             }
         }
         g.addCorner(10, 20, 30, 0, 0, 0);
@@ -217,6 +218,13 @@ public final class ThingsTest {
         for (int i = 0; i < 256; i++) {
             Check.is("the one before", g.setPattern(i / 64, i % 8, i / 8 % 8, 16777215), i + 1);
         }
+        setPatternRefused();
+    }
+
+    private static void setPatternRefused() {
+        GlassRaster g = new GlassRaster();
+        g.setPattern(0, 0, 0, 16777215);
+        g.setPattern(3, 7, 7, 16777215);
         Check.is("the most", g.setPattern(3, 7, 7, 0), 16777215);
         Check.is("the least", g.setPattern(3, 7, 7, 0), 0);
         int[] wrong = {-1, 8, Integer.MIN_VALUE, Integer.MAX_VALUE};

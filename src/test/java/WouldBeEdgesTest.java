@@ -75,6 +75,9 @@ public final class WouldBeEdgesTest {
         edges.of(33, SEEN_ANSWER, "none, one and 960", () -> {
             GlassRaster g = whole(9, false);
             Check.is("all", g.seenOf(0), 960);
+            Check.is("a point", g.colourNow(39, 23), 9);
+            Check.is("a tile", g.isStale(0), true);
+            Check.is("all, after a point and a tile", g.seenOf(0), 960);
             Scenes.pane(g, Scenes.dot(g, 39, 23, 7), false);
             Check.is("none of one that is not nearer", g.seenOf(1), 0);
             g.show(0, false);
@@ -196,7 +199,10 @@ public final class WouldBeEdgesTest {
             Scenes.pane(g, Scenes.triangle(g, 6, 6, 9), true);
             Check.is("an edge that counts", g.glassAt(6, 8), 1);
             Check.is("an edge that does not", g.glassAt(8, 8), 0);
-            Check.is("beside it", g.glassAt(5, 6), 0);
+            int[][] beside = {{5, 6}, {5, 9}, {10, 6}, {6, 5}, {9, 5}, {6, 10}, {9, 9}};
+            for (int[] at : beside) {
+                Check.is("beside it", g.glassAt(at[0], at[1]), 0);
+            }
         });
         edges.of(35, GLASS_ANSWER, "by both its pieces", () -> {
             Check.is("both, the second is nearer", Scenes.folded(true, true).glassAt(18, 13), 1);
@@ -247,6 +253,7 @@ public final class WouldBeEdgesTest {
         edges.of(36, "Returns the mean of r + g + b of all points of the picture, not cut.",
                 "the least and the most", () -> {
             GlassRaster g = whole(0xFFFFFF, false);
+            Check.is("white, if it was drawn now", g.stale(), 15);
             Check.isDouble("black", g.brightness(), 0.0);
             g.paint();
             Check.isDouble("white", g.brightness(), 765.0);
@@ -275,7 +282,7 @@ public final class WouldBeEdgesTest {
     }
 
     /** The checksum of what the other calls answer, each object asked less than 512 times. */
-    private static long digestOf(Supplier<GlassRaster> scene) {
+    static long digestOf(Supplier<GlassRaster> scene) {
         List<Integer> values = new ArrayList<>();
         GlassRaster first = scene.get();
         values.addAll(List.of(first.corners(), first.panes(), first.stale()));

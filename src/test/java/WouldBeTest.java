@@ -14,21 +14,27 @@ public final class WouldBeTest {
     }
 
     private static void colourNow() {
+        for (int y = 0; y < 24; y++) {
+            GlassRaster one = blueOverGreen();
+            for (int x = 0; x < 40; x++) {
+                Check.is("colourNow", one.colourNow(x, y),
+                        Scenes.inTriangle(6, 6, x, y) ? 0x007F7F : 4);
+            }
+        }
+        GlassRaster g = blueOverGreen();
+        Check.is("the picture stays", g.colourAt(6, 6), 0);
+        g.show(0, false);
+        Check.is("without the far one", g.colourNow(6, 6), 0x81);
+    }
+
+    private static GlassRaster blueOverGreen() {
         GlassRaster g = Scenes.flat();
         g.setBackground(4);
         Scenes.triangle(g, 6, 6, 0xFF);
         Scenes.farTriangle(g, 6, 6, 0x00FF00);
         g.addPane(3, 4, 5, -1, false, false);
         g.addPane(0, 1, 2, -1, true, false);
-        for (int y = 0; y < 24; y++) {
-            for (int x = 0; x < 40; x++) {
-                Check.is("colourNow", g.colourNow(x, y),
-                        Scenes.inTriangle(6, 6, x, y) ? 0x007F7F : 4);
-            }
-        }
-        Check.is("the picture stays", g.colourAt(6, 6), 0);
-        g.show(0, false);
-        Check.is("without the far one", g.colourNow(6, 6), 0x81);
+        return g;
     }
 
     private static void seenOf() {
@@ -177,51 +183,41 @@ public final class WouldBeTest {
     }
 
     private static void digest() {
-        GlassRaster g = new GlassRaster();
-        Check.is("digest of a new object", g.digest(), digestOf(g));
-        Check.is("digest again", g.digest(), digestOf(g));
-        g.addCorner(-150, -100, -450, 16711680, 0, 0);
-        g.addCorner(150, -100, 0, 65280, 2047, 0);
-        g.addCorner(0, 120, 100, 255, 1024, 2047);
-        g.addCorner(0, -200, 100, 16777215, 0, 1024);
-        Check.is("digest with corners", g.digest(), digestOf(g));
-        g.addPane(0, 1, 2, -1, false, true);
-        g.addPane(3, 2, 0, 0, false, true);
-        g.addPane(1, 2, 3, -1, true, true);
-        Check.holds("something is stale", g.stale() > 0);
-        Check.is("digest with panes", g.digest(), digestOf(g));
-        g.paint();
-        Check.is("digest with a picture", g.digest(), digestOf(g));
-        g.show(1, false);
-        Check.is("digest with one not shown", g.digest(), digestOf(g));
+        for (int steps = 0; steps <= 5; steps++) {
+            int upTo = steps;
+            long due = WouldBeEdgesTest.digestOf(() -> digestScene(upTo));
+            GlassRaster g = digestScene(steps);
+            Check.is("digest after step " + steps, g.digest(), due);
+            Check.is("digest again", g.digest(), due);
+        }
+        Check.holds("something is stale", digestScene(2).stale() > 0);
     }
 
-    /** The checksum from the answers of the other calls. */
-    private static long digestOf(GlassRaster g) {
-        java.util.List<Integer> values = new java.util.ArrayList<>();
-        values.addAll(java.util.List.of(g.corners(), g.panes(), g.stale()));
-        for (int i = 0; i < g.corners(); i++) {
-            values.addAll(java.util.List.of(g.seen(i, 0), g.seen(i, 1), g.seen(i, 2)));
+    /** Corners, panes, a picture, one not shown, a cleared picture: as many of these as steps. */
+    private static GlassRaster digestScene(int steps) {
+        GlassRaster g = new GlassRaster();
+        if (steps >= 1) {
+            g.addCorner(-150, -100, -450, 16711680, 0, 0);
+            g.addCorner(150, -100, 0, 65280, 2047, 0);
+            g.addCorner(0, 120, 100, 255, 1024, 2047);
+            g.addCorner(0, -200, 100, 16777215, 0, 1024);
         }
-        for (int i = 0; i < g.panes(); i++) {
-            values.addAll(java.util.List.of(g.polygonOf(i), g.piecesOf(i), g.pointsOf(i),
-                    g.pointsWith(i)));
-            for (int k = 0; k < g.polygonOf(i); k++) {
-                values.addAll(java.util.List.of(g.screenOf(i, k, 0), g.screenOf(i, k, 1),
-                        g.screenOf(i, k, 2), g.screenOf(i, k, 3)));
-            }
+        if (steps >= 2) {
+            g.addPane(0, 1, 2, -1, false, true);
+            g.addPane(3, 2, 0, 0, false, true);
+            g.addPane(1, 2, 3, -1, true, true);
         }
-        values.add(g.colours());
-        for (int i = 0; i < 960; i++) {
-            int x = i % 40;
-            int y = i / 40;
-            values.addAll(java.util.List.of(g.colourAt(x, y), g.depthAt(x, y), g.paneAt(x, y)));
+        if (steps >= 3) {
+            g.paint();
         }
-        long d = 2459;
-        for (int value : values) {
-            d = d * 31 + value;
+        if (steps >= 4) {
+            g.show(1, false);
         }
-        return d;
+        if (steps >= 5) {
+            g.setBackground(0xABCDEF);
+            g.clear();
+        }
+        return g;
     }
 
     private static void nothingIsChanged() {
